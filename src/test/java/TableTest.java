@@ -1,0 +1,135 @@
+import java.util.Arrays;
+
+/** TABLES against a search through every b that could fit two z (promises 16 to 19). */
+public final class TableTest {
+    private static HardBench bench;
+    private static int calls;
+    private static Oracle oracle;
+    private static int[] due;
+
+    private TableTest() {
+    }
+
+    public static void main(String[] args) {
+        int[] allS = {0, 1, 2, 3, 4, 5, 6, 7, 8, 9, 10};
+        for (int e = 2; e <= 4; e++) {
+            for (int f = 1; f <= 3; f++) {
+                lookAtMake(e, f, 1, allS);
+            }
+        }
+        lookAtMake(5, 1, 1, allS);
+        lookAtMake(5, 4, 3, new int[] {0, 2, 5, 10});
+        lookAtMake(2, 8, 1, new int[] {0, 1, 6, 10});
+        lookAtMake(3, 7, 2, new int[] {0, 4, 9});
+        lookAtMake(5, 8, 7, new int[] {0, 3, 8});
+        Due.end();
+    }
+
+    private static void lookAtMake(int e, int f, int powerStep, int[] units) {
+        oracle = new Oracle(e, f);
+        for (int power = 1; power <= (1 << e) - 2; power += powerStep) {
+            for (int function = 0; function < 5; function++) {
+                for (int rounding = 0; rounding < 5; rounding++) {
+                    readDue(function, rounding, power);
+                    for (int s : units) {
+                        lookAtTable(new int[] {function, rounding, power, 0, s});
+                        lookAtTable(new int[] {function, rounding, power, 1, s});
+                    }
+                }
+            }
+        }
+    }
+
+    private static void readDue(int function, int rounding, int power) {
+        due = new int[1 << oracle.f];
+        for (int z = 0; z < due.length; z++) {
+            due[z] = oracle.right(function, (power << oracle.f) + z, rounding);
+        }
+    }
+
+    /** An object with calls enough left for one TABLE's looks: 25 PARTS, 17 z, and the rest. */
+    private static HardBench bench() {
+        if (bench == null || calls > 300 || bench.status(0) != oracle.e || bench.status(1) != oracle.f) {
+            bench = new HardBench();
+            bench.make(oracle.e, oracle.f);
+            calls = 1;
+        }
+        calls += 2;
+        return bench;
+    }
+
+    private static void lookAtTable(int[] t) {
+        String name = "E " + oracle.e + " F " + oracle.f + " table " + Arrays.toString(t);
+        HardBench x = bench();
+        int parts = x.table(t[0], t[1], t[2], t[3], t[4]);
+        int i = 0;
+        for (int first = 0; first < due.length; i++) {
+            int[] want = longest(first, t[3], t[4]);
+            if (i < 20 || i >= parts - 5) {
+                lookAtPart(name + " part " + i, new int[] {i, first}, want, t);
+            }
+            first = want[0] + 1;
+        }
+        Due.is(name + " parts", parts, i);
+        Due.is(name + " parts", x.status(4), i);
+        Due.is(name + " is there", x.status(3), 1);
+        int step = Math.max(due.length / 16, 1);
+        for (int z = 0; z < due.length; z += step) {
+            Due.is(name + " look " + z, x.look(z), due[z]);
+        }
+        Due.is(name + " look at the last", x.look(due.length - 1), due[due.length - 1]);
+        calls += 3 + 17;
+    }
+
+    private static void lookAtPart(String name, int[] at, int[] want, int[] t) {
+        HardBench x = bench;
+        calls += 6;
+        int i = at[0];
+        int first = at[1];
+        Due.is(name + " first", x.part(i, 0), first);
+        Due.is(name + " last", x.part(i, 1), want[0]);
+        Due.is(name + " a", x.part(i, 2), want[1]);
+        Due.is(name + " b", x.part(i, 3), want[2]);
+        Due.is(name + " fits", x.fits(t[0], t[1], t[2], first, want[0], want[1], want[2], t[4]), -9);
+        if (want[0] + 1 < due.length) {
+            int misfit = x.fits(t[0], t[1], t[2], first, want[0] + 1, want[1], want[2], t[4]);
+            Due.is(name + " fits no more", misfit, want[0] + 1);
+        }
+    }
+
+    /** The last z, a and b of the longest PART from a z on. */
+    private static int[] longest(int first, int degree, int s) {
+        long unit = 1L << s;
+        long widest = 0;
+        if (degree == 1 && first + 1 < due.length) {
+            widest = (Math.abs(due[first + 1] - due[first]) + 1) * unit;
+        }
+        int[] best = null;
+        for (long amount = 0; amount <= widest; amount++) {
+            int[] below = run(first, -amount, unit);
+            int[] above = run(first, amount, unit);
+            best = best == null || below[0] > best[0] ? below : best;
+            best = above[0] > best[0] ? above : best;
+        }
+        return best;
+    }
+
+    /** With one b: the last z for which some a fits, and the least such a. */
+    private static int[] run(int first, long b, long unit) {
+        long leastA = due[first] * unit - b * first;
+        long greatestA = leastA + unit - 1;
+        int last = first;
+        for (int z = first + 1; z < due.length; z++) {
+            long low = due[z] * unit - b * z;
+            long newLeast = Math.max(leastA, low);
+            long newGreatest = Math.min(greatestA, low + unit - 1);
+            if (newLeast > newGreatest) {
+                break;
+            }
+            leastA = newLeast;
+            greatestA = newGreatest;
+            last = z;
+        }
+        return new int[] {last, (int) leastA, (int) b};
+    }
+}
