@@ -277,6 +277,10 @@ public final class PromisesTest {
         x.make(2, 1);
         Due.is("13 another MAKE", x.all(0, 0), 6);
         Due.is("12 another MAKE", x.count(0, 0), 12);
+        // of a function that was asked before: roots of 0 (with either sign) and 1 alone are EXACT
+        Due.is("13 another MAKE, the same function: NONE, ENDLESS, below 0", x.all(1, 0), 9);
+        Due.is("13 another MAKE, the same function: EXACT", x.all(1, 1), 3);
+        Due.is("12 another MAKE, the same function", x.count(1, 0), 12);
         x.make(3, 3);
         Due.is("11 the old MAKE again", x.hardest(1, 0), 9);
     }
@@ -303,6 +307,9 @@ public final class PromisesTest {
         Due.is("15 no what", x.span(0, 0, 2, 3), -2);
         Due.is("15 no what", x.span(0, 0, 0, -1), -2);
         x.make(3, 3);
+        // 1 by 1 .. 1.875 are seven results, so more than of the MAKE before
+        Due.holds("14 another MAKE, the same function", x.spans(0, 0) > 7);
+        Due.is("15 another MAKE, the same function", x.span(0, 0, 0, 2), 56);
         Due.is("15 another MAKE: the last CODE", x.span(1, 2, x.spans(1, 2) - 1, 1), 55);
     }
 
@@ -363,7 +370,9 @@ public final class PromisesTest {
         Due.is("19 from a later z on", x.fits(0, 0, 3, 1, 6, 23, -1, 0), -9);
         Due.is("19 the last one not", x.fits(0, 0, 3, 1, 7, 23, -1, 0), 7);
         Due.is("19 the first of several", x.fits(0, 0, 3, 0, 7, 24, -1, 0), 1);
-        Due.is("19 cut down below 0", x.fits(0, 0, 3, 0, 0, -1, 0, 4), 0);
+        // 0.25 cubed is cut to 0
+        Due.is("19 cut down: 15 16ths are 0", x.fits(4, 1, 1, 0, 0, 15, 0, 4), -9);
+        Due.is("19 cut down: -1 16th is -1", x.fits(4, 1, 1, 0, 0, -1, 0, 4), 0);
         Due.is("19 the greatest a, b", x.fits(0, 0, 3, 7, 7, 1000000000, 1000000000, 0), 7);
         Due.is("19 the least a, b", x.fits(0, 0, 3, 7, 7, -1000000000, -1000000000, 10), 7);
         // 14 and 7 times 613566757 is 17 more than 2 to the 32
