@@ -159,7 +159,8 @@ public final class PromisesTest {
 
     private static void right() {
         HardBench x = new HardBench();
-        // function, CODE, and the five ROUNDINGS: 1 by 1.125, -1 by 1.125, root of 2, third of -3, 1.375 squared and cubed
+        // function, CODE, and the five ROUNDINGS: 1 by 1.125 and by -1.125, root of 2, third of -3,
+        // 1.375 squared and cubed with either sign, the least one squared and cubed, 15 cubed, 1 by the least one
         int[][] rows = {
             {0, 25, 22, 22, 23, 22, 23}, {0, 89, 86, 86, 86, 87, 87}, {1, 32, 27, 27, 28, 27, 27},
             {2, 100, 92, 91, 91, 92, 91}, {3, 27, 31, 31, 32, 31, 31}, {4, 27, 34, 34, 35, 34, 35},
