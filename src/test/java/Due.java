@@ -1,3 +1,5 @@
+import java.util.function.Supplier;
+
 /** Counts the answers that are not as due; every test of the project ends by end(). */
 final class Due {
     private static final int SHOWN = 40;
@@ -18,6 +20,14 @@ final class Due {
         looked++;
         if (!holds) {
             tell(what + " does not hold");
+        }
+    }
+
+    /** As the other one, where the text is dear to make. */
+    static void holds(boolean holds, Supplier<String> what) {
+        looked++;
+        if (!holds) {
+            tell(what.get());
         }
     }
 
