@@ -247,7 +247,7 @@ public final class EdgesTest {
         Due.is("13 -2: sort 4", x.all(3, 4), -2);
         Due.is("13 -1 before -2", x.all(5, 4), -1);
         x.make(2, 1);
-        // squares of 0 and 1 are EXACT, of 0.5 a TIE, of 1.5, 2 and 3 neither, with either sign; the rest are no numbers
+        // with either sign: squares of 0 and 1 are EXACT, of 0.5 a TIE, of 1.5, 2 and 3 neither; two are none
         Due.is("13 sort 0", x.all(3, 0), 4);
         Due.is("13 sort 1", x.all(3, 1), 4);
         Due.is("13 sort 2", x.all(3, 2), 2);

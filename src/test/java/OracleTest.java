@@ -3,11 +3,7 @@ import java.util.List;
 
 /** Every answer over all CODES of every MAKE against the document's words (promises 2 to 15). */
 public final class OracleTest {
-    /** An object is promised for so many calls; the first is make. */
-    private static final int CALLS = 500;
-
-    private static HardBench bench;
-    private static int calls;
+    private static Bench make;
     private static Oracle oracle;
 
     private OracleTest() {
@@ -24,7 +20,7 @@ public final class OracleTest {
 
     private static void lookAtMake(int e, int f) {
         oracle = new Oracle(e, f);
-        calls = CALLS;
+        make = new Bench(e, f);
         lookAtOrder();
         lookAtRound();
         for (int function = 0; function < 5; function++) {
@@ -36,17 +32,11 @@ public final class OracleTest {
     }
 
     private static HardBench bench() {
-        if (calls >= CALLS) {
-            bench = new HardBench();
-            calls = 0;
-            Due.is(named("make"), bench.make(oracle.e, oracle.f), oracle.codes);
-        }
-        calls++;
-        return bench;
+        return make.x();
     }
 
     private static String named(String call, int... arguments) {
-        StringBuilder text = new StringBuilder("E " + oracle.e + " F " + oracle.f + " " + call + "(");
+        StringBuilder text = new StringBuilder(make.named(call)).append('(');
         for (int argument : arguments) {
             text.append(' ').append(argument);
         }

@@ -194,7 +194,9 @@ public final class StretchesTest {
     private static void wholeTable() {
         make = new Bench(5, 8);
         HardBench x = make.forCalls(20);
+        is("20 no TABLE", x.status(3), 0);
         is("16 all squares are ENDLESS", x.table(3, 0, 30, 0, 0), 1);
+        is("20 a TABLE of one PART", x.status(3), 1);
         is("17 from z 0 on", x.part(0, 0), 0);
         is("17 to the last one", x.part(0, 1), 255);
         is("17 a", x.part(0, 2), 31 << 8);

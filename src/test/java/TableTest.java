@@ -2,8 +2,10 @@ import java.util.Arrays;
 
 /** TABLES against a search through every b that could fit two z (promises 16 to 19). */
 public final class TableTest {
-    private static HardBench bench;
-    private static int calls;
+    /** What is asked of one TABLE: of 25 PARTS six calls each, of 17 z one, and what it is itself. */
+    private static final int CALLS = 25 * 6 + 17 + 4;
+
+    private static Bench make;
     private static Oracle oracle;
     private static int[] due;
 
@@ -26,6 +28,7 @@ public final class TableTest {
     }
 
     private static void lookAtMake(int e, int f, int powerStep, int[] units) {
+        make = new Bench(e, f);
         oracle = new Oracle(e, f);
         for (int power = 1; power <= (1 << e) - 2; power += powerStep) {
             for (int function = 0; function < 5; function++) {
@@ -47,57 +50,43 @@ public final class TableTest {
         }
     }
 
-    /** An object with calls enough left for one TABLE's looks: 25 PARTS, 17 z, and the rest. */
-    private static HardBench bench() {
-        if (bench == null || calls > 300 || bench.status(0) != oracle.e || bench.status(1) != oracle.f) {
-            bench = new HardBench();
-            bench.make(oracle.e, oracle.f);
-            calls = 1;
-        }
-        calls += 2;
-        return bench;
-    }
-
     private static void lookAtTable(int[] t) {
-        String name = "E " + oracle.e + " F " + oracle.f + " table " + Arrays.toString(t);
-        HardBench x = bench();
+        String name = make.named("table " + Arrays.toString(t));
+        HardBench x = make.forCalls(CALLS);
         int parts = x.table(t[0], t[1], t[2], t[3], t[4]);
         int i = 0;
         for (int first = 0; first < due.length; i++) {
             int[] want = longest(first, t[3], t[4]);
             if (i < 20 || i >= parts - 5) {
-                lookAtPart(name + " part " + i, new int[] {i, first}, want, t);
+                lookAtPart(x, name + " part " + i, new int[] {i, first}, want, t);
             }
             first = want[0] + 1;
         }
-        Due.is(name + " parts", parts, i);
-        Due.is(name + " parts", x.status(4), i);
-        Due.is(name + " is there", x.status(3), 1);
+        Due.is(name + " 16 how many PARTS", parts, i);
+        Due.is(name + " 20 how many PARTS", x.status(4), i);
+        Due.is(name + " 20 is there", x.status(3), 1);
         int step = Math.max(due.length / 16, 1);
         for (int z = 0; z < due.length; z += step) {
-            Due.is(name + " look " + z, x.look(z), due[z]);
+            Due.is(name + " 18 z " + z, x.look(z), due[z]);
         }
-        Due.is(name + " look at the last", x.look(due.length - 1), due[due.length - 1]);
-        calls += 3 + 17;
+        Due.is(name + " 18 the last z", x.look(due.length - 1), due[due.length - 1]);
     }
 
-    private static void lookAtPart(String name, int[] at, int[] want, int[] t) {
-        HardBench x = bench;
-        calls += 6;
+    private static void lookAtPart(HardBench x, String name, int[] at, int[] want, int[] t) {
         int i = at[0];
         int first = at[1];
-        Due.is(name + " first", x.part(i, 0), first);
-        Due.is(name + " last", x.part(i, 1), want[0]);
-        Due.is(name + " a", x.part(i, 2), want[1]);
-        Due.is(name + " b", x.part(i, 3), want[2]);
-        Due.is(name + " fits", x.fits(t[0], t[1], t[2], first, want[0], want[1], want[2], t[4]), -9);
+        Due.is(name + " 17 first z", x.part(i, 0), first);
+        Due.is(name + " 17 last z", x.part(i, 1), want[0]);
+        Due.is(name + " 17 a", x.part(i, 2), want[1]);
+        Due.is(name + " 17 b", x.part(i, 3), want[2]);
+        Due.is(name + " 19 fits", x.fits(t[0], t[1], t[2], first, want[0], want[1], want[2], t[4]), -9);
         if (want[0] + 1 < due.length) {
             int misfit = x.fits(t[0], t[1], t[2], first, want[0] + 1, want[1], want[2], t[4]);
-            Due.is(name + " fits no more", misfit, want[0] + 1);
+            Due.is(name + " 19 fits no more", misfit, want[0] + 1);
         }
     }
 
-    /** The last z, a and b of the longest PART from a z on. */
+    /** The last z, a and b of the longest PART from a z on; of all such b the least amount, of two the one below 0. */
     private static int[] longest(int first, int degree, int s) {
         long unit = 1L << s;
         long widest = 0;
