@@ -986,14 +986,19 @@ public final class HardBench {
 
         private void closePart(int first, int last) {
             long b = Math.max(least, Math.min(greatest, 0));
-            long a = Long.MIN_VALUE;
-            for (int z = first; z <= last; z++) {
-                a = Math.max(a, ((long) Rows.at(due, z) << s) - b * z);
+            long a = leastStart(first, b);
+            for (int z = first + 1; z <= last; z++) {
+                a = Math.max(a, leastStart(z, b));
             }
             Rows.put(firsts, parts, first);
             Rows.put(starts, parts, (int) a);
             Rows.put(slopes, parts, (int) b);
             parts++;
+        }
+
+        /** The least a that is right for one z, with a b. */
+        private long leastStart(int z, long b) {
+            return ((long) Rows.at(due, z) << s) - b * z;
         }
     }
 }

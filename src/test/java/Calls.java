@@ -135,6 +135,11 @@ final class Calls {
     }
 
     int on(HardBench x, int[] a) {
+        return on(x, promise, a);
+    }
+
+    /** The call of a promise by its number. */
+    static int on(HardBench x, int promise, int[] a) {
         switch (promise) {
             case 2:
                 return x.make(a[0], a[1]);

@@ -10,7 +10,7 @@ import java.util.TreeSet;
 import java.util.regex.Matcher;
 import java.util.regex.Pattern;
 
-/** The public face of the document, and those rules of LANGUAGE.md that can be seen from outside. */
+/** The public face of the document, and the rules of LANGUAGE.md on members and classes inside. */
 public final class FaceTest {
     private static final String[] FACE = {
         "make 2", "about 2", "next 1", "between 2", "round 3", "right 3", "sort 2", "figures 2", "hard 2",
@@ -21,8 +21,8 @@ public final class FaceTest {
 
     public static void main(String[] args) throws IOException {
         face();
+        asTheDocumentWritesIt();
         classesInside();
-        source();
         Due.end();
     }
 
@@ -50,6 +50,19 @@ public final class FaceTest {
         }
     }
 
+    /** Each line of the document's face, the parameters' names too, opens a block of the class. */
+    private static void asTheDocumentWritesIt() throws IOException {
+        String document = Files.readString(Path.of("../shared/DOC.md"));
+        String text = Files.readString(Path.of("src/main/java/HardBench.java"));
+        Matcher rows = Pattern.compile("(?m)^    (public [^;=]+\\));$").matcher(document);
+        int found = 0;
+        while (rows.find()) {
+            found++;
+            Due.holds(rows.group(1) + " stands in the class", text.contains("\n    " + rows.group(1) + " {\n"));
+        }
+        Due.is("lines of the document's face", found, FACE.length + 1);
+    }
+
     private static boolean ofInts(Method method) {
         boolean ofInts = method.getReturnType() == int.class && !Modifier.isStatic(method.getModifiers());
         for (Class<?> parameter : method.getParameterTypes()) {
@@ -69,51 +82,15 @@ public final class FaceTest {
             int modifiers = one.getModifiers();
             Due.holds(one + " is static and not public", Modifier.isStatic(modifiers)
                 && !Modifier.isPublic(modifiers) && !Modifier.isProtected(modifiers));
-            Due.holds(one + " has at most twenty fields", one.getDeclaredFields().length <= 20);
+            Due.holds("rule 11: " + one + " has at most twenty fields", one.getDeclaredFields().length <= 20);
+            for (Field field : one.getDeclaredFields()) {
+                Due.holds("rule 5: " + field + " is no static state", !Modifier.isStatic(field.getModifiers())
+                    || Modifier.isFinal(field.getModifiers()) && !field.getType().isArray());
+            }
             for (Method method : one.getDeclaredMethods()) {
                 Due.holds(method + " has a name of its own", !publicNames.contains(method.getName()));
                 Due.holds(method + " has at most seven parameters", method.getParameterCount() <= 7);
             }
         }
-    }
-
-    private static void source() throws IOException {
-        String text = Files.readString(Path.of("src/main/java/HardBench.java"));
-        String bare = text.replaceAll("(?s)/\\*.*?\\*/", "").replaceAll("//[^\n]*", "");
-        String[] ruledOut = {
-            "\\b(throw|throws|try|catch|synchronized|assert|package|protected|float|double)\\b",
-            "\\b(Thread|Random|Object|Exception|instanceof|static \\{)", "Exact\\(", "->", "::", "\\bSystem\\."};
-        for (String pattern : ruledOut) {
-            Due.holds("no " + pattern + " in the class", !Pattern.compile(pattern).matcher(bare).find());
-        }
-        Matcher imports = Pattern.compile("import ([^;]+);").matcher(bare);
-        while (imports.find()) {
-            Due.holds("import of Arrays alone", imports.group(1).equals("java.util.Arrays"));
-        }
-        methodLengths(text);
-    }
-
-    /** Methods are told by a line that opens a block and is no statement's. */
-    private static void methodLengths(String text) {
-        Pattern head = Pattern.compile("^\\s+(?!if|for|while|switch|\\})[^=]*\\)\\s*\\{$");
-        int depth = 0;
-        int line = 0;
-        int start = 0;
-        int outside = 0;
-        int methods = 0;
-        for (String row : text.split("\n")) {
-            line++;
-            if (start == 0 && head.matcher(row).find()) {
-                start = line;
-                outside = depth;
-                methods++;
-            }
-            depth += row.chars().map(c -> c == '{' ? 1 : c == '}' ? -1 : 0).sum();
-            if (start != 0 && depth == outside) {
-                Due.holds("the method at line " + start + " is short", line - start + 1 <= 60);
-                start = 0;
-            }
-        }
-        Due.holds("methods were found", methods > FACE.length);
     }
 }

@@ -56,7 +56,7 @@ public final class TableTest {
         int parts = x.table(t[0], t[1], t[2], t[3], t[4]);
         int i = 0;
         for (int first = 0; first < due.length; i++) {
-            int[] want = longest(first, t[3], t[4]);
+            int[] want = PartSearch.longest(due, first, t[3], t[4]);
             if (i < 20 || i >= parts - 5) {
                 lookAtPart(x, name + " part " + i, new int[] {i, first}, want, t);
             }
@@ -84,41 +84,5 @@ public final class TableTest {
             int misfit = x.fits(t[0], t[1], t[2], first, want[0] + 1, want[1], want[2], t[4]);
             Due.is(name + " 19 fits no more", misfit, want[0] + 1);
         }
-    }
-
-    /** The last z, a and b of the longest PART from a z on; of all such b the least amount, of two the one below 0. */
-    private static int[] longest(int first, int degree, int s) {
-        long unit = 1L << s;
-        long widest = 0;
-        if (degree == 1 && first + 1 < due.length) {
-            widest = (Math.abs(due[first + 1] - due[first]) + 1) * unit;
-        }
-        int[] best = null;
-        for (long amount = 0; amount <= widest; amount++) {
-            int[] below = run(first, -amount, unit);
-            int[] above = run(first, amount, unit);
-            best = best == null || below[0] > best[0] ? below : best;
-            best = above[0] > best[0] ? above : best;
-        }
-        return best;
-    }
-
-    /** With one b: the last z for which some a fits, and the least such a. */
-    private static int[] run(int first, long b, long unit) {
-        long leastA = due[first] * unit - b * first;
-        long greatestA = leastA + unit - 1;
-        int last = first;
-        for (int z = first + 1; z < due.length; z++) {
-            long low = due[z] * unit - b * z;
-            long newLeast = Math.max(leastA, low);
-            long newGreatest = Math.min(greatestA, low + unit - 1);
-            if (newLeast > newGreatest) {
-                break;
-            }
-            leastA = newLeast;
-            greatestA = newGreatest;
-            last = z;
-        }
-        return new int[] {last, (int) leastA, (int) b};
     }
 }
